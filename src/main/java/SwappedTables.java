@@ -334,6 +334,12 @@ public final class SwappedTables {
         return yes ? 1 : 0;
     }
 
+    private static void fillInts(int[] row, int number) {
+        for (int i = 0; i < row.length; i++) {
+            row[i] = number;
+        }
+    }
+
     private static void copyInts(int[] from, int[] to) {
         for (int i = 0; i < from.length && i < to.length; i++) {
             to[i] = from[i];
@@ -369,9 +375,7 @@ public final class SwappedTables {
         private final int[] wears = new int[CELLS];
 
         Cells() {
-            for (int i = 0; i < CELLS; i++) {
-                seals[i] = sealOf(0);
-            }
+            fillInts(seals, sealOf(0));
         }
 
         private static int sealOf(int content) {
@@ -447,9 +451,7 @@ public final class SwappedTables {
         Generation(int firstNumber) {
             number = firstNumber;
             torn = false;
-            for (int i = 0; i < PAGES; i++) {
-                cells[i] = NONE;
-            }
+            fillInts(cells, NONE);
         }
 
         int number() {
@@ -514,9 +516,7 @@ public final class SwappedTables {
         private final int[] told = new int[PAGES];
 
         Desk() {
-            for (int i = 0; i < PAGES; i++) {
-                told[i] = UNTOLD;
-            }
+            fillInts(told, UNTOLD);
         }
 
         int toldOf(int page) {
@@ -527,10 +527,6 @@ public final class SwappedTables {
             return toldOf(page) != UNTOLD;
         }
 
-        boolean hasContent(int page) {
-            return toldOf(page) >= 0;
-        }
-
         void tell(int page, int what) {
             if (isPage(page)) {
                 told[page] = what;
@@ -538,9 +534,7 @@ public final class SwappedTables {
         }
 
         void empty() {
-            for (int i = 0; i < PAGES; i++) {
-                told[i] = UNTOLD;
-            }
+            fillInts(told, UNTOLD);
         }
 
         int pagesTold() {
@@ -591,9 +585,7 @@ public final class SwappedTables {
         Swap() {
             on = false;
             done = 0;
-            for (int i = 0; i < PAGES; i++) {
-                written[i] = NONE;
-            }
+            fillInts(written, NONE);
         }
 
         boolean goesOn() {
@@ -605,16 +597,13 @@ public final class SwappedTables {
         }
 
         void start() {
-            end();
             on = true;
         }
 
         void end() {
             on = false;
             done = 0;
-            for (int i = 0; i < PAGES; i++) {
-                written[i] = NONE;
-            }
+            fillInts(written, NONE);
         }
 
         void countStep() {

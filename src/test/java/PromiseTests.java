@@ -29,6 +29,7 @@ public final class PromiseTests {
         giveUp();
         crash();
         crashTearsCells();
+        crashTearsEachCell();
         crashTearsTables();
         crashWithoutFreeCell();
         open();
@@ -37,6 +38,7 @@ public final class PromiseTests {
         clearText();
         undo();
         undoRestoresEverything();
+        undoRestoresTables();
         keep();
         restore();
         read();
@@ -93,7 +95,7 @@ public final class PromiseTests {
         x.finish();
     }
 
-    /** The cells 0 to 7, 8 to 15 and 16 to 23 are kept by the old generation and two readers (0: 8 to 15, 1: 0 to 7). */
+    /** The reader 0 keeps the cells 0 to 7, the reader 1 the cells 8 to 15, and the old generation has 16 to 23. */
     private static SwappedTables withoutFreeCells() {
         SwappedTables x = new SwappedTables();
         swapAllPages(x, 0);
@@ -541,6 +543,24 @@ public final class PromiseTests {
         due("10 sound when written again", x.count(7), 0);
     }
 
+    /** Promise 10: the first and the last cell. */
+    private static void crashTearsEachCell() {
+        SwappedTables x = new SwappedTables();
+        for (int i = 0; i < 24; i++) {
+            x.write(3, i);
+            x.begin();
+            x.crash(true);
+            due("10 torn " + i, x.cell(i, 2), 1);
+            due("10 all torn so far", x.count(7), i + 1);
+        }
+        due("10 crashes", x.count(9), 24);
+        x.write(3, 9);
+        x.begin();
+        x.step();
+        due("10 a torn cell is sound again", x.cell(0, 2), 0);
+        due("10 the others are not", x.count(7), 23);
+    }
+
     /** Promise 10: torn tables. */
     private static void crashTearsTables() {
         SwappedTables x = new SwappedTables();
@@ -733,6 +753,60 @@ public final class PromiseTests {
         x.crash(false);
         due("15 the snapshot stays", x.restore(), 1);
         due("15 as it was kept", x.count(4), 3);
+    }
+
+    /** Promise 15: tables and readers. */
+    private static void undoRestoresTables() {
+        SwappedTables x = new SwappedTables();
+        swapAllPages(x, 500);
+        x.open();
+        x.write(0, 1);
+        x.begin();
+        x.step();
+        x.crash(true);
+        due("15 torn table", x.table(0, 1), 1);
+        x.undo();
+        due("15 right again", x.table(0, 1), 0);
+        due("15 its number is back", x.table(0, 0), 1);
+        due("15 its pages are back", x.table(0, 3), 0);
+        due("15 its cells are back", x.table(0, 10), NONE);
+        x.crash(true);
+        x.write(1, 1);
+        x.begin();
+        x.finish();
+        due("15 right by a swap", x.table(0, 1), 0);
+        x.undo();
+        due("15 torn again", x.table(0, 1), 1);
+        due("15 the swap is owed", x.count(4), 3);
+        x.giveUp();
+        x.open();
+        x.close(0);
+        x.finish();
+        x.write(0, 900);
+        x.begin();
+        x.finish();
+        x.open();
+        due("15 reader of the new one", x.readBy(0, 0), 900);
+        x.undo();
+        due("15 no reader", x.reader(0), UNKNOWN);
+        x.open();
+        x.keep();
+        x.write(0, 901);
+        x.begin();
+        x.finish();
+        x.close(0);
+        x.open();
+        due("15 another generation", x.readBy(0, 0), 901);
+        x.undo();
+        x.undo();
+        due("15 the reader's own number", x.reader(0), 3);
+        due("15 the reader's own page", x.readBy(0, 0), 900);
+        x.close(0);
+        x.open();
+        due("17 another generation", x.reader(0), 4);
+        x.restore();
+        due("17 the reader's own number", x.reader(0), 3);
+        due("17 the reader's own page", x.readBy(0, 0), 900);
     }
 
     /** Promise 16. */
