@@ -74,20 +74,20 @@ public final class PromiseTests {
         }
     }
 
-    private static void type(SwappedTables x, String text) {
+    private static void type(CountedTables x, String text) {
         for (int i = 0; i < text.length(); i++) {
             x.type(text.charAt(i));
         }
     }
 
-    private static int writeAll(SwappedTables x, String text) {
+    private static int writeAll(CountedTables x, String text) {
         x.clearText();
         type(x, text);
         return x.writeAll();
     }
 
     /** Writes all pages with first, first + 1, .. and swaps. */
-    private static void swapAllPages(SwappedTables x, int first) {
+    private static void swapAllPages(CountedTables x, int first) {
         for (int page = 0; page < 8; page++) {
             x.write(page, first + page);
         }
@@ -96,8 +96,8 @@ public final class PromiseTests {
     }
 
     /** The reader 0 keeps the cells 0 to 7, the reader 1 the cells 8 to 15, and the old generation has 16 to 23. */
-    private static SwappedTables withoutFreeCells() {
-        SwappedTables x = new SwappedTables();
+    private static CountedTables withoutFreeCells() {
+        CountedTables x = new CountedTables();
         swapAllPages(x, 0);
         due("reader of the first generation", x.open(), 0);
         swapAllPages(x, 100);
@@ -117,7 +117,7 @@ public final class PromiseTests {
 
     /** Promise 1. */
     private static void newObject() {
-        SwappedTables x = new SwappedTables();
+        CountedTables x = new CountedTables();
         for (int page = 0; page < 8; page++) {
             due("1 read", x.read(page), NONE);
             due("1 readDesk", x.readDesk(page), NONE);
@@ -147,7 +147,7 @@ public final class PromiseTests {
 
     /** Promise 2. */
     private static void write() {
-        SwappedTables x = new SwappedTables();
+        CountedTables x = new CountedTables();
         due("2 first", x.write(3, 0), 1);
         due("2 other page", x.write(7, 999), 2);
         due("2 page 0", x.write(0, 12), 3);
@@ -175,7 +175,7 @@ public final class PromiseTests {
 
     /** Promise 3. */
     private static void drop() {
-        SwappedTables x = new SwappedTables();
+        CountedTables x = new CountedTables();
         due("3 a page without a cell", x.drop(2), 1);
         due("3 again", x.drop(2), NONE);
         due("3 records no NONE", x.count(14), 1);
@@ -201,7 +201,7 @@ public final class PromiseTests {
 
     /** Promise 4. */
     private static void writeAll() {
-        SwappedTables x = new SwappedTables();
+        CountedTables x = new CountedTables();
         due("4 three entries", writeAll(x, "0=5,7=999,3-"), 3);
         due("4 page 0", x.readDesk(0), 5);
         due("4 page 7", x.readDesk(7), 999);
@@ -242,19 +242,19 @@ public final class PromiseTests {
             1, 24, 1, 0, 2, 3, 2, 2, 0, 6
         };
         for (int i = 0; i < texts.length; i++) {
-            SwappedTables x = new SwappedTables();
+            CountedTables x = new CountedTables();
             due("4 fault of '" + texts[i] + "'", writeAll(x, texts[i]), -100 - faults[i]);
             due("4 nothing is done of '" + texts[i] + "'", x.count(3), 0);
             due("4 nothing is recorded of '" + texts[i] + "'", x.count(14), 0);
         }
-        SwappedTables x = new SwappedTables();
+        CountedTables x = new CountedTables();
         String full = "0-,1-,2-,3-,4-,5-,6-,7-,0-,1-,2-,3-,4-,5-,6-,7-,0-,1-,2-,3-,";
         due("4 a full text that ends too early", writeAll(x, full), -160);
     }
 
     /** Promise 5. */
     private static void clear() {
-        SwappedTables x = new SwappedTables();
+        CountedTables x = new CountedTables();
         due("5 of nothing", x.clear(), NONE);
         due("5 records no NONE", x.count(14), 0);
         x.write(0, 1);
@@ -276,7 +276,7 @@ public final class PromiseTests {
 
     /** Promise 6. */
     private static void begin() {
-        SwappedTables x = new SwappedTables();
+        CountedTables x = new CountedTables();
         due("6 of nothing", x.begin(), NONE);
         due("6 records no NONE", x.count(14), 0);
         x.drop(4);
@@ -296,7 +296,7 @@ public final class PromiseTests {
 
     /** Promise 7. */
     private static void step() {
-        SwappedTables x = new SwappedTables();
+        CountedTables x = new CountedTables();
         due("7 none", x.step(), NONE);
         x.write(6, 66);
         x.write(2, 22);
@@ -345,7 +345,7 @@ public final class PromiseTests {
 
     /** Promise 7: which cell is written. */
     private static void stepTakesTheLeastWornCell() {
-        SwappedTables x = new SwappedTables();
+        CountedTables x = new CountedTables();
         x.write(0, 1);
         for (int i = 0; i < 24; i++) {
             x.begin();
@@ -368,7 +368,7 @@ public final class PromiseTests {
 
     /** Promise 7: a step that needs a cell. */
     private static void stepIsFull() {
-        SwappedTables x = withoutFreeCells();
+        CountedTables x = withoutFreeCells();
         x.drop(0);
         x.write(1, 1);
         x.begin();
@@ -381,7 +381,7 @@ public final class PromiseTests {
         due("7 a reader ends", x.close(0), 1);
         due("7 goes on", x.step(), 2);
         due("7 the reader's cell", x.cell(0, 7), 1);
-        SwappedTables y = withoutFreeCells();
+        CountedTables y = withoutFreeCells();
         y.drop(0);
         y.begin();
         due("7 a table needs no cell", y.step(), 1);
@@ -392,7 +392,7 @@ public final class PromiseTests {
 
     /** Promise 8. */
     private static void finish() {
-        SwappedTables x = new SwappedTables();
+        CountedTables x = new CountedTables();
         due("8 none", x.finish(), NONE);
         x.write(0, 5);
         x.write(1, 6);
@@ -411,13 +411,13 @@ public final class PromiseTests {
 
     /** Promise 8: as far as possible. */
     private static void finishIsFull() {
-        SwappedTables x = withoutFreeCells();
+        CountedTables x = withoutFreeCells();
         x.write(4, 1);
         x.write(5, 2);
         x.write(6, 3);
         x.begin();
         due("8 full", x.finish(), FULL);
-        SwappedTables y = new SwappedTables();
+        CountedTables y = new CountedTables();
         swapAllPages(y, 0);
         y.open();
         swapAllPages(y, 100);
@@ -444,7 +444,7 @@ public final class PromiseTests {
 
     /** Promise 9. */
     private static void giveUp() {
-        SwappedTables x = new SwappedTables();
+        CountedTables x = new CountedTables();
         due("9 none", x.giveUp(), NONE);
         x.write(0, 5);
         x.write(1, 6);
@@ -477,7 +477,7 @@ public final class PromiseTests {
 
     /** Promise 10. */
     private static void crash() {
-        SwappedTables x = new SwappedTables();
+        CountedTables x = new CountedTables();
         due("10 of a new one", x.crash(false), 1);
         due("10 with nothing to tear", x.crash(true), 1);
         due("10 counted", x.count(9), 2);
@@ -515,7 +515,7 @@ public final class PromiseTests {
 
     /** Promise 10: torn cells. */
     private static void crashTearsCells() {
-        SwappedTables x = new SwappedTables();
+        CountedTables x = new CountedTables();
         x.write(2, 6);
         x.write(5, 8);
         x.begin();
@@ -545,7 +545,7 @@ public final class PromiseTests {
 
     /** Promise 10: the first and the last cell. */
     private static void crashTearsEachCell() {
-        SwappedTables x = new SwappedTables();
+        CountedTables x = new CountedTables();
         for (int i = 0; i < 24; i++) {
             x.write(3, i);
             x.begin();
@@ -563,7 +563,7 @@ public final class PromiseTests {
 
     /** Promise 10: torn tables. */
     private static void crashTearsTables() {
-        SwappedTables x = new SwappedTables();
+        CountedTables x = new CountedTables();
         x.write(0, 5);
         x.begin();
         x.finish();
@@ -588,14 +588,14 @@ public final class PromiseTests {
 
     /** Promise 10: readers keep their cells until the crash. */
     private static void crashWithoutFreeCell() {
-        SwappedTables x = withoutFreeCells();
+        CountedTables x = withoutFreeCells();
         x.write(0, 1);
         x.begin();
         due("10 no free cell", x.crash(true), 4);
         due("10 nothing torn", x.count(7), 0);
         due("10 nothing written", x.count(11), 24);
         due("10 the readers' cells are free", x.count(6), 16);
-        SwappedTables y = new SwappedTables();
+        CountedTables y = new CountedTables();
         swapAllPages(y, 0);
         y.open();
         y.open();
@@ -615,7 +615,7 @@ public final class PromiseTests {
 
     /** Promise 11. */
     private static void open() {
-        SwappedTables x = new SwappedTables();
+        CountedTables x = new CountedTables();
         due("11 first", x.open(), 0);
         due("11 second", x.open(), 1);
         due("11 third", x.open(), 2);
@@ -630,7 +630,7 @@ public final class PromiseTests {
         due("11 the lowest that is free", x.open(), 1);
         due("11 the next one", x.open(), 2);
         due("11 full again", x.open(), FULL);
-        SwappedTables y = new SwappedTables();
+        CountedTables y = new CountedTables();
         y.write(0, 1);
         y.begin();
         y.step();
@@ -645,7 +645,7 @@ public final class PromiseTests {
 
     /** Promise 12. */
     private static void close() {
-        SwappedTables x = new SwappedTables();
+        CountedTables x = new CountedTables();
         due("12 none", x.close(0), UNKNOWN);
         x.open();
         x.open();
@@ -662,7 +662,7 @@ public final class PromiseTests {
         due("12 none left", x.close(2), 0);
         x.undo();
         due("12 undone", x.reader(2), 1);
-        SwappedTables y = withoutFreeCells();
+        CountedTables y = withoutFreeCells();
         y.close(0);
         due("12 its cells are free", y.count(6), 8);
         due("12 cells of the other", y.count(12), 8);
@@ -670,7 +670,7 @@ public final class PromiseTests {
 
     /** Promise 13. */
     private static void type() {
-        SwappedTables x = new SwappedTables();
+        CountedTables x = new CountedTables();
         for (int i = 1; i <= 60; i++) {
             due("13 typed", x.type((char) (i * 1000)), i);
         }
@@ -688,7 +688,7 @@ public final class PromiseTests {
 
     /** Promise 14. */
     private static void clearText() {
-        SwappedTables x = new SwappedTables();
+        CountedTables x = new CountedTables();
         due("14 empty", x.clearText(), 0);
         type(x, "0=12");
         due("14 length", x.clearText(), 4);
@@ -700,7 +700,7 @@ public final class PromiseTests {
 
     /** Promise 15. */
     private static void undo() {
-        SwappedTables x = new SwappedTables();
+        CountedTables x = new CountedTables();
         due("15 empty", x.undo(), NONE);
         for (int i = 0; i < 6; i++) {
             x.write(0, i);
@@ -722,7 +722,7 @@ public final class PromiseTests {
 
     /** Promise 15: each part of the state comes back, but not the text and the snapshot. */
     private static void undoRestoresEverything() {
-        SwappedTables x = new SwappedTables();
+        CountedTables x = new CountedTables();
         x.write(0, 6);
         x.write(1, 7);
         x.begin();
@@ -757,7 +757,7 @@ public final class PromiseTests {
 
     /** Promise 15: tables and readers. */
     private static void undoRestoresTables() {
-        SwappedTables x = new SwappedTables();
+        CountedTables x = new CountedTables();
         swapAllPages(x, 500);
         x.open();
         x.write(0, 1);
@@ -811,7 +811,7 @@ public final class PromiseTests {
 
     /** Promise 16. */
     private static void keep() {
-        SwappedTables x = new SwappedTables();
+        CountedTables x = new CountedTables();
         due("16 the number", x.keep(), 1);
         due("16 no act", x.count(14), 0);
         x.write(0, 1);
@@ -832,7 +832,7 @@ public final class PromiseTests {
 
     /** Promise 17. */
     private static void restore() {
-        SwappedTables x = new SwappedTables();
+        CountedTables x = new CountedTables();
         due("17 none", x.restore(), NONE);
         due("17 records no NONE", x.count(14), 0);
         x.write(0, 1);
@@ -867,7 +867,7 @@ public final class PromiseTests {
 
     /** Promise 18. */
     private static void read() {
-        SwappedTables x = new SwappedTables();
+        CountedTables x = new CountedTables();
         due("18 none", x.read(0), NONE);
         due("18 page -1", x.read(-1), UNKNOWN);
         due("18 page 8", x.read(8), UNKNOWN);
@@ -884,7 +884,7 @@ public final class PromiseTests {
 
     /** Promise 19. */
     private static void readDesk() {
-        SwappedTables x = new SwappedTables();
+        CountedTables x = new CountedTables();
         due("19 none", x.readDesk(0), NONE);
         due("19 page -1", x.readDesk(-1), UNKNOWN);
         due("19 page 8", x.readDesk(8), UNKNOWN);
@@ -901,7 +901,7 @@ public final class PromiseTests {
 
     /** Promise 20. */
     private static void readBy() {
-        SwappedTables x = new SwappedTables();
+        CountedTables x = new CountedTables();
         due("20 no reader", x.readBy(0, 0), UNKNOWN);
         x.open();
         due("20 none", x.readBy(0, 0), NONE);
@@ -923,7 +923,7 @@ public final class PromiseTests {
 
     /** Promise 21. */
     private static void cell() {
-        SwappedTables x = new SwappedTables();
+        CountedTables x = new CountedTables();
         due("21 cell -1", x.cell(-1, 0), UNKNOWN);
         due("21 cell 24", x.cell(24, 0), UNKNOWN);
         due("21 cell before what", x.cell(24, 8), UNKNOWN);
@@ -963,7 +963,7 @@ public final class PromiseTests {
 
     /** Promise 22. */
     private static void table() {
-        SwappedTables x = new SwappedTables();
+        CountedTables x = new CountedTables();
         due("22 table -1", x.table(-1, 0), UNKNOWN);
         due("22 table 2", x.table(2, 0), UNKNOWN);
         due("22 table before what", x.table(2, 4), UNKNOWN);
@@ -993,7 +993,7 @@ public final class PromiseTests {
 
     /** Promise 23. */
     private static void owed() {
-        SwappedTables x = new SwappedTables();
+        CountedTables x = new CountedTables();
         due("23 none goes on", x.owed(0, 0), NONE);
         due("23 bad what, none goes on", x.owed(0, 2), BAD_VALUE);
         x.write(6, 1);
@@ -1023,7 +1023,7 @@ public final class PromiseTests {
 
     /** Promise 24. */
     private static void reader() {
-        SwappedTables x = new SwappedTables();
+        CountedTables x = new CountedTables();
         due("24 none", x.reader(0), UNKNOWN);
         due("24 reader -1", x.reader(-1), UNKNOWN);
         due("24 reader 4", x.reader(4), UNKNOWN);
@@ -1041,7 +1041,7 @@ public final class PromiseTests {
 
     /** Promise 25. */
     private static void unevenness() {
-        SwappedTables x = new SwappedTables();
+        CountedTables x = new CountedTables();
         dueDouble("25 new", x.unevenness(), 0.0);
         x.write(0, 1);
         int all = 0;
@@ -1057,7 +1057,7 @@ public final class PromiseTests {
 
     /** Promise 26. */
     private static void unevennessBits() {
-        SwappedTables x = new SwappedTables();
+        CountedTables x = new CountedTables();
         due("26 new", x.unevennessBits(), 0);
         swapAllPages(x, 0);
         x.open();
@@ -1068,14 +1068,17 @@ public final class PromiseTests {
             x.begin();
             x.step();
             x.giveUp();
-            due("26 behind " + i, x.unevennessBits(), Float.floatToIntBits((float) x.unevenness()));
+            // Every other time, so that the calls stay below the document's 512.
+            if (i % 2 == 0) {
+                due("26 behind " + i, x.unevennessBits(), Float.floatToIntBits((float) x.unevenness()));
+            }
         }
         due("26 above 8", x.unevenness() > 8.0 ? 1 : 0, 1);
     }
 
     /** Promise 27. */
     private static void count() {
-        SwappedTables x = new SwappedTables();
+        CountedTables x = new CountedTables();
         due("27 what -1", x.count(-1), BAD_VALUE);
         due("27 what 17", x.count(17), BAD_VALUE);
         due("27 far above", x.count(Integer.MAX_VALUE), BAD_VALUE);
@@ -1109,7 +1112,7 @@ public final class PromiseTests {
 
     /** Errors and NONE change nothing and are not recorded. */
     private static void nothingChangesOnErrors() {
-        SwappedTables x = new SwappedTables();
+        CountedTables x = new CountedTables();
         x.write(0, 4);
         x.undo();
         x.write(9, 0);
