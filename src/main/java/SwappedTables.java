@@ -368,7 +368,6 @@ public final class SwappedTables {
         return (exponent << 23) | fraction;
     }
 
-    /** The cells of the store. */
     private static final class Cells {
         private final int[] contents = new int[CELLS];
         private final int[] seals = new int[CELLS];

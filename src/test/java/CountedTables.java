@@ -1,5 +1,5 @@
 /** A SwappedTables whose calls are counted: the document promises nothing behind the 512th. */
-final class CountedTables {
+final class CountedTables implements Tables {
     private static final int MOST_CALLS = 512;
 
     private final SwappedTables tables = new SwappedTables();
@@ -17,107 +17,133 @@ final class CountedTables {
         return calls;
     }
 
-    int write(int page, int content) {
+    @Override
+    public int write(int page, int content) {
         return counted().write(page, content);
     }
 
-    int drop(int page) {
+    @Override
+    public int drop(int page) {
         return counted().drop(page);
     }
 
-    int writeAll() {
+    @Override
+    public int writeAll() {
         return counted().writeAll();
     }
 
-    int clear() {
+    @Override
+    public int clear() {
         return counted().clear();
     }
 
-    int begin() {
+    @Override
+    public int begin() {
         return counted().begin();
     }
 
-    int step() {
+    @Override
+    public int step() {
         return counted().step();
     }
 
-    int finish() {
+    @Override
+    public int finish() {
         return counted().finish();
     }
 
-    int giveUp() {
+    @Override
+    public int giveUp() {
         return counted().giveUp();
     }
 
-    int crash(boolean torn) {
+    @Override
+    public int crash(boolean torn) {
         return counted().crash(torn);
     }
 
-    int open() {
+    @Override
+    public int open() {
         return counted().open();
     }
 
-    int close(int reader) {
+    @Override
+    public int close(int reader) {
         return counted().close(reader);
     }
 
-    int type(char character) {
+    @Override
+    public int type(char character) {
         return counted().type(character);
     }
 
-    int clearText() {
+    @Override
+    public int clearText() {
         return counted().clearText();
     }
 
-    int undo() {
+    @Override
+    public int undo() {
         return counted().undo();
     }
 
-    int keep() {
+    @Override
+    public int keep() {
         return counted().keep();
     }
 
-    int restore() {
+    @Override
+    public int restore() {
         return counted().restore();
     }
 
-    int read(int page) {
+    @Override
+    public int read(int page) {
         return counted().read(page);
     }
 
-    int readDesk(int page) {
+    @Override
+    public int readDesk(int page) {
         return counted().readDesk(page);
     }
 
-    int readBy(int reader, int page) {
+    @Override
+    public int readBy(int reader, int page) {
         return counted().readBy(reader, page);
     }
 
-    int cell(int cell, int what) {
+    @Override
+    public int cell(int cell, int what) {
         return counted().cell(cell, what);
     }
 
-    int table(int table, int what) {
+    @Override
+    public int table(int table, int what) {
         return counted().table(table, what);
     }
 
-    int owed(int place, int what) {
+    @Override
+    public int owed(int place, int what) {
         return counted().owed(place, what);
     }
 
-    int reader(int reader) {
+    @Override
+    public int reader(int reader) {
         return counted().reader(reader);
     }
 
-    double unevenness() {
+    @Override
+    public double unevenness() {
         return counted().unevenness();
     }
 
-    int unevennessBits() {
+    @Override
+    public int unevennessBits() {
         return counted().unevennessBits();
     }
 
-    int count(int what) {
+    @Override
+    public int count(int what) {
         return counted().count(what);
     }
 }

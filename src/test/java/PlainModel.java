@@ -12,7 +12,7 @@ import java.util.regex.Pattern;
  * The document once more, written with the Java library and in another way than the program:
  * a swap is a list of steps, states are copied anew, and a text's fault is found by its beginnings.
  */
-final class PlainModel {
+final class PlainModel implements Tables {
     private static final int UNKNOWN = -1;
     private static final int BAD_VALUE = -2;
     private static final int FULL = -3;
@@ -143,13 +143,15 @@ final class PlainModel {
         return s.owed == null ? 0 : s.owed.size();
     }
 
-    int write(int page, int content) {
+    @Override
+    public int write(int page, int content) {
         if (!page(page)) return UNKNOWN;
         if (content < 0 || content > 999) return BAD_VALUE;
         return put(page, content);
     }
 
-    int drop(int page) {
+    @Override
+    public int drop(int page) {
         return page(page) ? put(page, DROPPED) : UNKNOWN;
     }
 
@@ -169,7 +171,8 @@ final class PlainModel {
         return TEXT.matcher(text).matches() ? -1 : text.length();
     }
 
-    int writeAll() {
+    @Override
+    public int writeAll() {
         int fault = fault();
         if (fault >= 0) return -100 - fault;
         if (s.owed != null) return NOT_POSSIBLE;
@@ -181,7 +184,8 @@ final class PlainModel {
         return entries.length;
     }
 
-    int clear() {
+    @Override
+    public int clear() {
         if (s.owed != null) return NOT_POSSIBLE;
         if (s.desk.isEmpty()) return NONE;
         record();
@@ -190,7 +194,8 @@ final class PlainModel {
         return size;
     }
 
-    int begin() {
+    @Override
+    public int begin() {
         if (s.owed != null) return NOT_POSSIBLE;
         if (s.desk.isEmpty()) return NONE;
         record();
@@ -203,7 +208,8 @@ final class PlainModel {
         return s.owed.size();
     }
 
-    int step() {
+    @Override
+    public int step() {
         if (s.owed == null) return NONE;
         if (s.stuck()) return FULL;
         record();
@@ -211,7 +217,8 @@ final class PlainModel {
         return owedSteps();
     }
 
-    int finish() {
+    @Override
+    public int finish() {
         if (s.owed == null) return NONE;
         if (s.stuck()) return FULL;
         record();
@@ -221,7 +228,8 @@ final class PlainModel {
         return owedSteps();
     }
 
-    int giveUp() {
+    @Override
+    public int giveUp() {
         if (s.owed == null) return NONE;
         record();
         int done = s.done;
@@ -229,7 +237,8 @@ final class PlainModel {
         return done;
     }
 
-    int crash(boolean torn) {
+    @Override
+    public int crash(boolean torn) {
         record();
         if (torn && s.owed != null) {
             Step next = s.owed.get(0);
@@ -243,7 +252,8 @@ final class PlainModel {
         return s.old().number();
     }
 
-    int open() {
+    @Override
+    public int open() {
         for (int i = 0; i < 4; i++) {
             if (!s.readers.containsKey(i)) {
                 record();
@@ -254,36 +264,42 @@ final class PlainModel {
         return FULL;
     }
 
-    int close(int reader) {
+    @Override
+    public int close(int reader) {
         if (!s.readers.containsKey(reader)) return UNKNOWN;
         record();
         s.readers.remove(reader);
         return s.readers.size();
     }
 
-    int type(char character) {
+    @Override
+    public int type(char character) {
         if (text.length() == 60) return FULL;
         return text.append(character).length();
     }
 
-    int clearText() {
+    @Override
+    public int clearText() {
         int length = text.length();
         text.setLength(0);
         return length;
     }
 
-    int undo() {
+    @Override
+    public int undo() {
         if (history.isEmpty()) return NONE;
         s = history.removeLast();
         return history.size();
     }
 
-    int keep() {
+    @Override
+    public int keep() {
         snapshot = s.copy();
         return s.old().number();
     }
 
-    int restore() {
+    @Override
+    public int restore() {
         if (snapshot == null) return NONE;
         record();
         s = snapshot.copy();
@@ -295,16 +311,19 @@ final class PlainModel {
         return cell == null ? NONE : s.cells.get(cell).content();
     }
 
-    int read(int page) {
+    @Override
+    public int read(int page) {
         return page(page) ? by(s.old(), page) : UNKNOWN;
     }
 
-    int readDesk(int page) {
+    @Override
+    public int readDesk(int page) {
         if (!page(page)) return UNKNOWN;
         return s.desk.containsKey(page) ? s.desk.get(page) : by(s.old(), page);
     }
 
-    int readBy(int reader, int page) {
+    @Override
+    public int readBy(int reader, int page) {
         return s.readers.containsKey(reader) && page(page) ? by(s.readers.get(reader), page) : UNKNOWN;
     }
 
@@ -312,7 +331,8 @@ final class PlainModel {
         return map.entrySet().stream().filter(e -> e.getValue() == value).map(Map.Entry::getKey).findFirst().orElse(NONE);
     }
 
-    int cell(int cell, int what) {
+    @Override
+    public int cell(int cell, int what) {
         if (cell < 0 || cell > 23) return UNKNOWN;
         Cell c = s.cells.get(cell);
         return switch (what) {
@@ -328,7 +348,8 @@ final class PlainModel {
         };
     }
 
-    int table(int table, int what) {
+    @Override
+    public int table(int table, int what) {
         if (table != 0 && table != 1) return UNKNOWN;
         Table t = s.tables[table];
         if (what == 0) return t.number();
@@ -338,21 +359,25 @@ final class PlainModel {
         return what >= 10 && what <= 17 ? t.cells().getOrDefault(what - 10, NONE) : BAD_VALUE;
     }
 
-    int owed(int place, int what) {
+    @Override
+    public int owed(int place, int what) {
         if (place < 0 || what < 0 || what > 1) return BAD_VALUE;
         if (place >= owedSteps()) return NONE;
         return what == 0 ? s.owed.get(place).kind() : s.owed.get(place).page();
     }
 
-    int reader(int reader) {
+    @Override
+    public int reader(int reader) {
         return s.readers.containsKey(reader) ? s.readers.get(reader).number() : UNKNOWN;
     }
 
-    double unevenness() {
+    @Override
+    public double unevenness() {
         return (double) count(10) - (double) count(11) / 24.0;
     }
 
-    int unevennessBits() {
+    @Override
+    public int unevennessBits() {
         return Float.floatToIntBits((float) unevenness());
     }
 
@@ -364,7 +389,8 @@ final class PlainModel {
         return cells.size();
     }
 
-    int count(int what) {
+    @Override
+    public int count(int what) {
         return switch (what) {
             case 0 -> s.old().number();
             case 1 -> s.mark;

@@ -1,11 +1,5 @@
 /** At least one test for each promise of ../shared/DOC.md: ordinary inputs, the edges it names, wrong inputs. */
-public final class PromiseTests {
-    private static final int UNKNOWN = -1;
-    private static final int BAD_VALUE = -2;
-    private static final int FULL = -3;
-    private static final int NOT_POSSIBLE = -4;
-    private static final int NONE = -5;
-
+public final class PromiseTests implements Answers {
     private static int checks = 0;
     private static int wrong = 0;
 
@@ -74,35 +68,14 @@ public final class PromiseTests {
         }
     }
 
-    private static void type(CountedTables x, String text) {
-        for (int i = 0; i < text.length(); i++) {
-            x.type(text.charAt(i));
-        }
-    }
-
-    private static int writeAll(CountedTables x, String text) {
-        x.clearText();
-        type(x, text);
-        return x.writeAll();
-    }
-
-    /** Writes all pages with first, first + 1, .. and swaps. */
-    private static void swapAllPages(CountedTables x, int first) {
-        for (int page = 0; page < 8; page++) {
-            x.write(page, first + page);
-        }
-        x.begin();
-        x.finish();
-    }
-
     /** The reader 0 keeps the cells 0 to 7, the reader 1 the cells 8 to 15, and the old generation has 16 to 23. */
     private static CountedTables withoutFreeCells() {
         CountedTables x = new CountedTables();
-        swapAllPages(x, 0);
+        Stores.swapAllPages(x, 0);
         due("reader of the first generation", x.open(), 0);
-        swapAllPages(x, 100);
+        Stores.swapAllPages(x, 100);
         due("reader of the second generation", x.open(), 1);
-        swapAllPages(x, 200);
+        Stores.swapAllPages(x, 200);
         due("no free cells", x.count(6), 0);
         return x;
     }
@@ -202,7 +175,7 @@ public final class PromiseTests {
     /** Promise 4. */
     private static void writeAll() {
         CountedTables x = new CountedTables();
-        due("4 three entries", writeAll(x, "0=5,7=999,3-"), 3);
+        due("4 three entries", Stores.writeAll(x, "0=5,7=999,3-"), 3);
         due("4 page 0", x.readDesk(0), 5);
         due("4 page 7", x.readDesk(7), 999);
         due("4 page 3", x.readDesk(3), NONE);
@@ -211,22 +184,22 @@ public final class PromiseTests {
         due("4 one act", x.count(14), 1);
         due("4 an act without a change too", x.writeAll(), 3);
         due("4 recorded too", x.count(14), 2);
-        due("4 one after the other", writeAll(x, "1=1,1-,1=20,0-,7-,7=300"), 6);
+        due("4 one after the other", Stores.writeAll(x, "1=1,1-,1=20,0-,7-,7=300"), 6);
         due("4 the last entry counts", x.readDesk(1), 20);
         due("4 the last entry drops", x.readDesk(0), NONE);
         due("4 the last entry writes", x.readDesk(7), 300);
         due("4 pages of several entries", x.count(3), 4);
-        due("4 most entries", writeAll(x, "0-,1-,2-,3-,4-,5-,6-,7-,0-,1-,2-,3-,4-,5-,6-,7-,0-,1-,2-,3-"), 20);
+        due("4 most entries", Stores.writeAll(x, "0-,1-,2-,3-,4-,5-,6-,7-,0-,1-,2-,3-,4-,5-,6-,7-,0-,1-,2-,3-"), 20);
         due("4 all told", x.count(3), 8);
-        due("4 zero", writeAll(x, "4=0"), 1);
+        due("4 zero", Stores.writeAll(x, "4=0"), 1);
         due("4 reads zero", x.readDesk(4), 0);
-        due("4 two digits", writeAll(x, "4=90"), 1);
+        due("4 two digits", Stores.writeAll(x, "4=90"), 1);
         due("4 reads two digits", x.readDesk(4), 90);
-        due("4 three digits", writeAll(x, "4=100"), 1);
+        due("4 three digits", Stores.writeAll(x, "4=100"), 1);
         due("4 reads three digits", x.readDesk(4), 100);
         x.begin();
         due("4 in a swap", x.writeAll(), NOT_POSSIBLE);
-        due("4 in a swap, with a fault", writeAll(x, "4=1,"), -104);
+        due("4 in a swap, with a fault", Stores.writeAll(x, "4=1,"), -104);
     }
 
     /** Promise 4: the faults. */
@@ -243,13 +216,13 @@ public final class PromiseTests {
         };
         for (int i = 0; i < texts.length; i++) {
             CountedTables x = new CountedTables();
-            due("4 fault of '" + texts[i] + "'", writeAll(x, texts[i]), -100 - faults[i]);
+            due("4 fault of '" + texts[i] + "'", Stores.writeAll(x, texts[i]), -100 - faults[i]);
             due("4 nothing is done of '" + texts[i] + "'", x.count(3), 0);
             due("4 nothing is recorded of '" + texts[i] + "'", x.count(14), 0);
         }
         CountedTables x = new CountedTables();
         String full = "0-,1-,2-,3-,4-,5-,6-,7-,0-,1-,2-,3-,4-,5-,6-,7-,0-,1-,2-,3-,";
-        due("4 a full text that ends too early", writeAll(x, full), -160);
+        due("4 a full text that ends too early", Stores.writeAll(x, full), -160);
     }
 
     /** Promise 5. */
@@ -418,9 +391,9 @@ public final class PromiseTests {
         x.begin();
         due("8 full", x.finish(), FULL);
         CountedTables y = new CountedTables();
-        swapAllPages(y, 0);
+        Stores.swapAllPages(y, 0);
         y.open();
-        swapAllPages(y, 100);
+        Stores.swapAllPages(y, 100);
         y.open();
         for (int page = 0; page < 6; page++) {
             y.write(page, 200 + page);
@@ -596,10 +569,10 @@ public final class PromiseTests {
         due("10 nothing written", x.count(11), 24);
         due("10 the readers' cells are free", x.count(6), 16);
         CountedTables y = new CountedTables();
-        swapAllPages(y, 0);
+        Stores.swapAllPages(y, 0);
         y.open();
         y.open();
-        swapAllPages(y, 100);
+        Stores.swapAllPages(y, 100);
         for (int i = 0; i < 8; i++) {
             y.write(0, i);
             y.begin();
@@ -690,7 +663,7 @@ public final class PromiseTests {
     private static void clearText() {
         CountedTables x = new CountedTables();
         due("14 empty", x.clearText(), 0);
-        type(x, "0=12");
+        Stores.type(x, "0=12");
         due("14 length", x.clearText(), 4);
         due("14 empty again", x.clearText(), 0);
         due("14 no length", x.count(15), 0);
@@ -729,7 +702,7 @@ public final class PromiseTests {
         x.open();
         x.step();
         x.keep();
-        type(x, "0-");
+        Stores.type(x, "0-");
         x.crash(true);
         due("15 crashed", x.count(9), 1);
         due("15 undone", x.undo(), 3);
@@ -758,7 +731,7 @@ public final class PromiseTests {
     /** Promise 15: tables and readers. */
     private static void undoRestoresTables() {
         CountedTables x = new CountedTables();
-        swapAllPages(x, 500);
+        Stores.swapAllPages(x, 500);
         x.open();
         x.write(0, 1);
         x.begin();
@@ -844,7 +817,7 @@ public final class PromiseTests {
         x.finish();
         x.close(0);
         x.crash(false);
-        type(x, "12");
+        Stores.type(x, "12");
         due("17 the number", x.restore(), 1);
         due("17 recorded", x.count(14), 4);
         due("17 the swap goes on", x.count(4), 3);
@@ -871,7 +844,7 @@ public final class PromiseTests {
         due("18 none", x.read(0), NONE);
         due("18 page -1", x.read(-1), UNKNOWN);
         due("18 page 8", x.read(8), UNKNOWN);
-        swapAllPages(x, 500);
+        Stores.swapAllPages(x, 500);
         for (int page = 0; page < 8; page++) {
             due("18 page " + page, x.read(page), 500 + page);
         }
@@ -888,7 +861,7 @@ public final class PromiseTests {
         due("19 none", x.readDesk(0), NONE);
         due("19 page -1", x.readDesk(-1), UNKNOWN);
         due("19 page 8", x.readDesk(8), UNKNOWN);
-        swapAllPages(x, 500);
+        Stores.swapAllPages(x, 500);
         due("19 the old generation", x.readDesk(7), 507);
         x.write(7, 0);
         due("19 the desk", x.readDesk(7), 0);
@@ -910,11 +883,11 @@ public final class PromiseTests {
         due("20 reader -1", x.readBy(-1, 0), UNKNOWN);
         due("20 reader 1", x.readBy(1, 0), UNKNOWN);
         due("20 reader 4", x.readBy(4, 0), UNKNOWN);
-        swapAllPages(x, 500);
+        Stores.swapAllPages(x, 500);
         due("20 its own generation", x.readBy(0, 0), NONE);
         x.open();
-        swapAllPages(x, 600);
-        swapAllPages(x, 700);
+        Stores.swapAllPages(x, 600);
+        Stores.swapAllPages(x, 700);
         due("20 first page", x.readBy(1, 0), 500);
         due("20 last page", x.readBy(1, 7), 507);
         x.close(1);
@@ -971,7 +944,7 @@ public final class PromiseTests {
         for (int what : bad) {
             due("22 what " + what, x.table(0, what), BAD_VALUE);
         }
-        swapAllPages(x, 0);
+        Stores.swapAllPages(x, 0);
         due("22 all pages", x.table(1, 3), 255);
         for (int page = 0; page < 8; page++) {
             due("22 cell of page " + page, x.table(1, 10 + page), page);
@@ -1028,7 +1001,7 @@ public final class PromiseTests {
         due("24 reader -1", x.reader(-1), UNKNOWN);
         due("24 reader 4", x.reader(4), UNKNOWN);
         x.open();
-        swapAllPages(x, 0);
+        Stores.swapAllPages(x, 0);
         x.open();
         due("24 the first generation", x.reader(0), 1);
         due("24 the second generation", x.reader(1), 2);
@@ -1059,9 +1032,9 @@ public final class PromiseTests {
     private static void unevennessBits() {
         CountedTables x = new CountedTables();
         due("26 new", x.unevennessBits(), 0);
-        swapAllPages(x, 0);
+        Stores.swapAllPages(x, 0);
         x.open();
-        swapAllPages(x, 0);
+        Stores.swapAllPages(x, 0);
         x.open();
         x.write(0, 1);
         for (int i = 0; i < 110; i++) {
@@ -1083,7 +1056,7 @@ public final class PromiseTests {
         due("27 what 17", x.count(17), BAD_VALUE);
         due("27 far above", x.count(Integer.MAX_VALUE), BAD_VALUE);
         due("27 far below", x.count(Integer.MIN_VALUE), BAD_VALUE);
-        swapAllPages(x, 0);
+        Stores.swapAllPages(x, 0);
         x.open();
         x.open();
         x.drop(0);
@@ -1098,7 +1071,7 @@ public final class PromiseTests {
         x.drop(4);
         x.begin();
         x.step();
-        type(x, "012");
+        Stores.type(x, "012");
         int[] counts = {3, 0, 7, 3, 3, 1, 14, 0, 3, 0, 1, 10, 2, 2, 4, 3, 1};
         for (int what = 0; what < counts.length; what++) {
             due("27 in a swap " + what, x.count(what), counts[what]);

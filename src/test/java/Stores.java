@@ -11,26 +11,26 @@ final class Stores {
         return (sealOf(content) + 1) % 101;
     }
 
-    static void type(CountedTables x, String text) {
+    static void type(Tables x, String text) {
         for (int i = 0; i < text.length(); i++) {
             x.type(text.charAt(i));
         }
     }
 
-    static int writeAll(CountedTables x, String text) {
+    static int writeAll(Tables x, String text) {
         x.clearText();
         type(x, text);
         return x.writeAll();
     }
 
-    static void swap(CountedTables x, int page, int content) {
+    static void swap(Tables x, int page, int content) {
         x.write(page, content);
         x.begin();
         x.finish();
     }
 
     /** Writes all pages with first, first + 1, .. and swaps: ten calls. */
-    static void swapAllPages(CountedTables x, int first) {
+    static void swapAllPages(Tables x, int first) {
         for (int page = 0; page < 8; page++) {
             x.write(page, first + page);
         }
@@ -38,9 +38,14 @@ final class Stores {
         x.finish();
     }
 
-    /** The reader 0 keeps the cells 0 to 7, the reader 1 the cells 8 to 15, and the old generation has the rest. */
     static CountedTables withFreeCells(int free) {
         CountedTables x = new CountedTables();
+        leaveFreeCells(x, free);
+        return x;
+    }
+
+    /** The reader 0 keeps the cells 0 to 7, the reader 1 the cells 8 to 15, and the old generation has the rest. */
+    static void leaveFreeCells(Tables x, int free) {
         swapAllPages(x, 0);
         x.open();
         swapAllPages(x, 100);
@@ -50,6 +55,11 @@ final class Stores {
         }
         x.begin();
         x.finish();
+    }
+
+    static CountedTables inSwap(int done) {
+        CountedTables x = new CountedTables();
+        goIntoSwap(x, done);
         return x;
     }
 
@@ -57,8 +67,7 @@ final class Stores {
      * The table 1 is the old one, its number is 2: page 0 has cell 0, page 2 has cell 1. The swap owes page 1 (10),
      * page 4 (57, the seal of which is 100), the table and the mark; page 0 is dropped by it. Some are done.
      */
-    static CountedTables inSwap(int done) {
-        CountedTables x = new CountedTables();
+    static void goIntoSwap(Tables x, int done) {
         x.write(0, 500);
         x.write(2, 502);
         x.begin();
@@ -70,11 +79,10 @@ final class Stores {
         for (int i = 0; i < done; i++) {
             x.step();
         }
-        return x;
     }
 
     /** Everything that is told of a state but the history: 304 calls. */
-    static int[] everything(CountedTables x) {
+    static int[] everything(Tables x) {
         int[] told = new int[304];
         int many = 0;
         for (int what = 0; what <= 16; what++) {
